@@ -32,7 +32,9 @@ public final class DogKings {
 
     private final int[][] items = new int[ROWS][MOST_ITEMS];
     private final int[] lanes = new int[ROWS];
-    private final int[] sizes = {MISSING, MISSING, MISSING, MISSING, MISSING, MISSING, MISSING, MISSING};
+    private final int[] sizes = {
+        MISSING, MISSING, MISSING, MISSING, MISSING, MISSING, MISSING, MISSING
+    };
     private int finding;
 
     private final Reader reader = new Reader();
@@ -528,7 +530,7 @@ public final class DogKings {
             cats = t.cats;
         }
 
-        void found(int streetPlaces, int minutesOfAFriday) {
+        void begin(int streetPlaces, int minutesOfAFriday) {
             places = streetPlaces;
             fridayLasts = minutesOfAFriday;
             friday = 0;
@@ -599,7 +601,7 @@ public final class DogKings {
             return atBell() ? ring() : NONE;
         }
 
-        /** A MINUTE, but for THE BELL: of many who ask, all count who is where at it. */
+        /** A MINUTE, but for THE BELL: most of what is foretold asks who is where at it. */
         void stir() {
             for (int p = 0; p < people; p++) {
                 stroll(p);
@@ -814,7 +816,7 @@ public final class DogKings {
             if (minutes == NONE || !takes(';')) {
                 return false;
             }
-            draft.found(places, minutes);
+            draft.begin(places, minutes);
             return true;
         }
 
@@ -1004,16 +1006,14 @@ public final class DogKings {
 
         /** The PLACES of the fewest cats, of several the least set; NONE. */
         int fewestCats(int place) {
-            int best = NONE;
-            int fewest = MOST_PLACES;
-            for (int set = 0; set <= setOfAll(now.places); set++) {
-                int n = Integer.bitCount(set);
-                if (n < fewest && !holds(set, place) && keepsDogsOut(set, place)) {
-                    best = set;
-                    fewest = n;
+            for (int n = 0; n < now.places; n++) {
+                for (int set = 0; set <= setOfAll(now.places); set++) {
+                    if (Integer.bitCount(set) == n && !holds(set, place) && keepsDogsOut(set, place)) {
+                        return set;
+                    }
                 }
             }
-            return best;
+            return NONE;
         }
 
         private boolean keepsDogsOut(int cats, int place) {
