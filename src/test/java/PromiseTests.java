@@ -1,11 +1,5 @@
 /** Each promise of the document by answers that were worked out by hand from its words. */
-final class PromiseTests {
-    private static final int NONE = DogKings.NONE, BAD = DogKings.BAD;
-    private static final int STATE = DogKings.STATE, FULL = DogKings.FULL;
-    private static final int NULL = -1000011, PLACE = -1000012, KIND = -1000013;
-    private static final int SIZE = -1000014, STORE = -1000015;
-    private static final int LOW = Integer.MIN_VALUE, HIGH = Integer.MAX_VALUE;
-
+final class PromiseTests extends TownTest {
     /**
      * All five kinds. By MINUTE: PEOPLE 1 3, 2 2, 3 1, 4 0 (the bell), 1 3; DOGS 0 4 2 0 4, 1 3 2 1 3,
      * 2 3 3 2 2, 3 4 4 3 1 (the bell), 0 4 2 0 4. Each FRIDAY is like the first: KING 0.
@@ -68,30 +62,13 @@ final class PromiseTests {
         CHECK.due("promise " + promise + ": " + what, got, want);
     }
 
-    private static int tell(DogKings k, String text) {
-        for (int i = 0; i < text.length(); i++) {
-            k.feed(text.charAt(i));
-        }
-        return k.town();
-    }
-
     private static DogKings in(String text) {
-        DogKings k = new DogKings();
-        int dogs = tell(k, text);
-        CHECK.holds("the text " + text + " is read", dogs >= 0);
-        return k;
+        return in(CHECK, text);
     }
 
     private static void places(DogKings k, String dogs) {
         for (int d = 0; d < dogs.length(); d++) {
             due("dog(" + d + ", 0)", k.dog(d, 0), dogs.charAt(d) - '0');
-        }
-    }
-
-    private static void rowOf(DogKings k, int row, int... items) {
-        k.row(row, 0, items.length);
-        for (int i = 0; i < items.length; i++) {
-            k.set(row, i, items[i]);
         }
     }
 
