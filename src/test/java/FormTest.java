@@ -1,12 +1,19 @@
 import java.io.IOException;
+import java.lang.reflect.Array;
 import java.lang.reflect.Constructor;
 import java.lang.reflect.Field;
 import java.lang.reflect.Method;
 import java.lang.reflect.Modifier;
 import java.nio.file.Files;
 import java.nio.file.Path;
+import java.util.ArrayList;
 import java.util.Arrays;
+import java.util.Collections;
+import java.util.IdentityHashMap;
+import java.util.List;
+import java.util.Map;
 import java.util.Set;
+import java.util.TreeMap;
 import java.util.TreeSet;
 import java.util.regex.Matcher;
 import java.util.regex.Pattern;
@@ -26,10 +33,13 @@ final class FormTest {
     private FormTest() {
     }
 
-    public static void main(String[] args) throws IOException {
+    public static void main(String[] args) throws IOException, IllegalAccessException {
+        String source = Files.readString(Path.of("src/main/java/DogKings.java"));
         face();
         classes();
-        text(Files.readString(Path.of("src/main/java/DogKings.java")));
+        text(source);
+        depth(source);
+        objects(source);
         CHECK.end();
     }
 
@@ -116,5 +126,76 @@ final class FormTest {
                 start = -1;
             }
         }
+    }
+
+    /** Rule 11: calls that are no recursion go at most eight deep. */
+    private static void depth(String source) {
+        Map<String, String> bodies = new TreeMap<>();
+        Matcher m = Pattern.compile("(?m)^( {4}| {8})(?:public |private |static )*[\\w\\[\\]]+ (\\w+)\\([^;{]*\\) \\{$(?s)(.*?)\\n\\1\\}$")
+                .matcher(source);
+        while (m.find()) {
+            // methods of one name are taken together: that can only make a chain longer
+            bodies.merge(m.group(2), m.group(3), String::concat);
+        }
+        CHECK.holds("all methods are seen, " + bodies.size(), bodies.keySet().containsAll(
+                List.of("row", "suits", "status", "troubleWith", "become", "countOthers", "takeBack", "meets", "gives", "begins")));
+        for (String name : bodies.keySet()) {
+            List<String> chain = longest(name, bodies, new ArrayList<>());
+            CHECK.holds("eight deep at most: " + chain, chain.size() <= 8);
+        }
+    }
+
+    private static List<String> longest(String name, Map<String, String> bodies, List<String> open) {
+        open.add(name);
+        List<String> best = new ArrayList<>();
+        Matcher call = Pattern.compile("\\b(\\w+)\\(").matcher(bodies.get(name));
+        while (call.find()) {
+            String called = call.group(1);
+            if (bodies.containsKey(called) && !open.contains(called)) {
+                List<String> chain = longest(called, bodies, open);
+                if (chain.size() > best.size()) {
+                    best = chain;
+                }
+            }
+        }
+        open.remove(open.size() - 1);
+        best.add(0, name);
+        return best;
+    }
+
+    /** Rule 12, and the room that all calls of one run have: objects are made by constructors alone, and few. */
+    private static void objects(String source) throws IllegalAccessException {
+        for (String line : source.split("\n")) {
+            if (line.matches(".*\\bnew \\w.*")) {
+                CHECK.holds("a field's, or a constructor's: " + line.strip(),
+                        line.matches(" +(private )?final .* = .*") || line.strip().equals("before[i] = new Town();"));
+            }
+        }
+        DogKings k = new DogKings();
+        Set<Object> seen = Collections.newSetFromMap(new IdentityHashMap<>());
+        int elements = elements(k, seen);
+        CHECK.holds(seen.size() + " objects, 500 at most", seen.size() <= 500);
+        CHECK.holds(elements + " fields and elements, 5000 at most", elements <= 5000);
+    }
+
+    private static int elements(Object o, Set<Object> seen) throws IllegalAccessException {
+        if (o == null || !seen.add(o)) {
+            return 0;
+        }
+        int sum = 0;
+        if (o.getClass().isArray()) {
+            sum = Array.getLength(o);
+            for (int i = 0; i < Array.getLength(o) && !o.getClass().getComponentType().isPrimitive(); i++) {
+                sum += elements(Array.get(o, i), seen);
+            }
+            return sum;
+        }
+        for (Field f : o.getClass().getDeclaredFields()) {
+            if (!Modifier.isStatic(f.getModifiers())) {
+                f.setAccessible(true);
+                sum += 1 + (f.getType().isPrimitive() ? 0 : elements(f.get(o), seen));
+            }
+        }
+        return sum;
     }
 }
