@@ -84,9 +84,9 @@ final class RefusalTests extends TownTest {
         }
         for (int n = 0; n < 25; n++) {
             all.add(k.undo());
-            all.add(k.count(5) + 100 * k.count(4));
-            all.add(k.person(0, 3) * 10 + k.person(1, 3));
-            all.add(k.person(0, 4) * 10 + k.person(1, 4));
+            all.add(k.count(5));
+            all.add(k.person(n % 2, 3));
+            all.add(k.person(1 - n % 2, 4));
             all.add(k.dog(2, 0));
         }
         for (int image = 0; image < 2; image++) {
