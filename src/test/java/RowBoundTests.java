@@ -486,6 +486,17 @@ final class RowBoundTests extends TownTest {
                 faulty(part, n, 1);
             }
         }
+        for (int n = 2; n < text.length(); n++) {
+            DogKings k = in("t5,30;m01,04,01;m03,02,02;h00;t04;p02;k00;s04;");
+            due("a shorter text behind a longer one", tell(k, text.substring(0, n)) <= -1000100 ? n : 0,
+                    n >= 12 && text.charAt(n - 1) == ';' ? 0 : n);
+        }
+        DogKings k = in("t5,30;m0,0,0;");
+        due("no byte of the text before", tell(k, "t5,3"), -1000104);
+        due("the end is no NUMBER", k.fault(), 1);
+        k = in("t5,30;m0,0,0;");
+        due("no byte of the text before", tell(k, "t5,"), -1000103);
+        due("the end is no NUMBER", k.fault(), 1);
         for (int n = 0; n < 7; n++) {
             faulty(LONGEST.substring(0, n), n == 2 ? 1 : n, n == 2 ? 2 : 1);
         }

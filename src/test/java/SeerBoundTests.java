@@ -9,6 +9,7 @@ final class SeerBoundTests extends TownTest {
     public static void main(String[] args) {
         minutesOn();
         minutesOnOverBells();
+        nothingChanges();
         theNthBell();
         heirByMinutes();
         fewestBones();
@@ -86,6 +87,49 @@ final class SeerBoundTests extends TownTest {
             due("goes(0, " + d[0] + ")", longest.goes(0, d[0]), d[1]);
             due("ahead(0, " + d[0] + ")", longest.ahead(0, d[0]), d[1]);
         }
+    }
+
+    private static void onTheWay(String behind, DogKings k) {
+        for (int d = 0; d <= 3; d++) {
+            due("ahead(0, " + d + ") behind " + behind, k.ahead(0, d), 4 - d);
+            due("ahead(1, " + d + ") behind " + behind, k.ahead(1, d), 5 + d);
+        }
+        due("crowned(1) behind " + behind, k.crowned(1), 0);
+    }
+
+    private static void nothingChanges() {
+        sentence = "FORETOLD (nothing changes): not what is foretold next, either";
+        DogKings k = in("t9,4;m0,0,0;m8,0,0;h4;h5;");
+        onTheWay("nothing", k);
+        due("cats in 1", k.cats(0, 1), 2);
+        onTheWay("cats(0, 1)", k);
+        due("no DOG is in 3 by then", k.cats(3, 0), 0);
+        onTheWay("cats(3, 0)", k);
+        due("all asleep", k.asleep(0, 10, 0), 0);
+        onTheWay("asleep(0, 10, 0)", k);
+        k.asleep(1, 5, 1);
+        onTheWay("asleep(1, 5, 1)", k);
+        due("any pack with DOG 0", k.packs(0), 2);
+        onTheWay("packs(0)", k);
+        due("on DOG 0", k.hangs(), 1);
+        onTheWay("hangs()", k);
+        due("both DOGS by one BONE", k.least(1), 1);
+        onTheWay("least(1)", k);
+        k.walks(1);
+        onTheWay("walks(1)", k);
+        k.shows(1, 0, 2);
+        onTheWay("shows(1, 0, 2)", k);
+        k.drawn(9, 5, 1);
+        onTheWay("drawn(9, 5, 1)", k);
+        rowOf(k, 0, 3, 2);
+        due("a hound, a terrier, a shy one", k.fits(0, 0, 0, 2, 0), 2 + 4 + 32);
+        onTheWay("fits(0, 0, 0, 2, 0)", k);
+        due("from 4", k.fits(0, 0, 0, 2, 1), 16);
+        onTheWay("fits(0, 0, 0, 2, 1)", k);
+        k.suits(1, 0, 0, 0, 2, 0);
+        onTheWay("suits(1, 0, 0, 0, 2, 0)", k);
+        k.suits(1, 0, 0, 0, 2, 1);
+        onTheWay("suits(1, 0, 0, 0, 2, 1)", k);
     }
 
     private static void theNthBell() {
