@@ -639,7 +639,7 @@ public final class DogKings {
 
         int ring() {
             int king = kingAtBell();
-            if (king != NONE && reigns[king] < MOST_REIGNS) {
+            if (king >= 0 && king < people && reigns[king] < MOST_REIGNS) {
                 reigns[king]++;
             }
             for (int p = 0; p < people; p++) {
@@ -732,8 +732,9 @@ public final class DogKings {
                 others[place] = 0;
             }
             for (int o = 0; o < dogs; o++) {
-                if (o != d && holds(dogsThere, o)) {
-                    others[dogAt[o]]++;
+                int place = dogAt[o];
+                if (o != d && holds(dogsThere, o) && place >= 0 && place < places) {
+                    others[place]++;
                 }
             }
         }
@@ -1024,7 +1025,7 @@ public final class DogKings {
         }
 
         /** With so many turns left, the one's at each even number, as the one goes first. */
-        int outcome(int one, int other, int bonesOfOne, int bonesOfOther, int turns) {
+        private int outcome(int one, int other, int bonesOfOne, int bonesOfOther, int turns) {
             if (turns <= 0 || turns > 2 * MOST_SHOWN) {
                 return margin(one, other, bonesOfOne, bonesOfOther);
             }
@@ -1141,10 +1142,10 @@ public final class DogKings {
             for (int bell = 0; bell < n; bell++) {
                 x = drawFriday(x);
                 int king = then.ring();
-                if (king == NONE) {
-                    kingless++;
-                } else {
+                if (king >= 0 && king < crowns.length) {
                     crowns[king]++;
+                } else {
+                    kingless++;
                 }
             }
         }

@@ -39,6 +39,7 @@ final class FormTest {
         classes();
         text(source);
         depth(source);
+        recursion(source);
         objects(source);
         CHECK.end();
     }
@@ -143,6 +144,20 @@ final class FormTest {
             List<String> chain = longest(name, bodies, new ArrayList<>());
             CHECK.holds("eight deep at most: " + chain, chain.size() <= 8);
         }
+    }
+
+    /** Rule 8: what calls itself is private, and carries how deep it is, or how deep it may go yet. */
+    private static void recursion(String source) {
+        Matcher m = Pattern.compile("(?m)^( {4}| {8})(\\w[\\w\\[\\] ]*) (\\w+)\\(([^;{]*)\\) \\{$(?s)(.*?)\\n\\1\\}$").matcher(source);
+        Set<String> recursive = new TreeSet<>();
+        while (m.find()) {
+            if (Pattern.compile("(?<![.\\w])" + m.group(3) + "\\(").matcher(m.group(5)).find()) {
+                recursive.add(m.group(3));
+                CHECK.holds(m.group(3) + " calls itself and is private", m.group(2).startsWith("private "));
+                CHECK.holds(m.group(3) + " calls itself and carries its depth", m.group(4).matches(".*int (depth|turns)"));
+            }
+        }
+        CHECK.holds("these call themselves: " + recursive, recursive.equals(Set.of("outcome", "gives")));
     }
 
     private static List<String> longest(String name, Map<String, String> bodies, List<String> open) {
